@@ -453,10 +453,10 @@ public final class VerseYearsPromises {
     due("15 blanks alone", x.readings(), STATE);
     rewrite(x, "? ? ? ? ? ? ? ? ?");
     due("15 told in full", x.readings(), 1000000000);
-    rewrite(x, "? ? ? ? ? ? ? ? ? ?");
-    due("15 the most that is told", x.readings(), 2000000000);
-    rewrite(x, "? ? ? ? ? ? ? ? ? ? ? ? ? ? ? ? ? ? ? ?");
-    due("15 twenty parts", x.readings(), 2000000000);
+    for (int parts = 10; parts <= 20; parts++) {
+      write(x, " ?");
+      due("15 the most that is told, parts " + parts, x.readings(), 2000000000);
+    }
     x.order(0, 0);
     x.order(1, 0);
     due("15 three go on at each part: 10 times 3 to the 19th", x.readings(), 2000000000);
@@ -594,11 +594,12 @@ public final class VerseYearsPromises {
     list(x, "X", 1, 1);
     due("lines with a new vocable", x.lines(3, 30, 0, 0), 8);
     due("lines by another counting", x.lines(3, 30, 1, 0), 1);
+    due("lines by the counting ahead", x.lines(3, 30, 0, 0), 8);
     x.order(1, 1);
     due("lines by another order", x.lines(3, 30, 0, 0), 5);
     due("the same by another custom", x.lines(3, 30, 0, 1), 5);
     x.value(1, 'x', 5);
-    due("lines by another value", x.lines(3, 30, 0, 1), 0);
+    due("lines by another value, none", x.lines(3, 30, 0, 1), 0);
     due("lines by another value", x.lines(3, 15, 0, 1), 5);
     due("custom 0 has its own", x.lines(3, 30, 0, 0), 5);
     due("the last line", x.line(3, 15, 0, 1, 4, 2), 1);
