@@ -429,13 +429,16 @@ public final class VerseYears {
 
     /**
      * Lines are counted by how many ways there are to go on behind a sort with the feet and the sum that are left.
-     * What has been counted is kept with the round it was counted in, so that nothing is ever wiped.
+     * What has been counted is kept until the round ends: it holds for one custom, one counting, one list and order.
      */
     private static final class Verses {
-        private static final int KEPT_FEET = MOST_FEET - 1;
-        private static final int KEPT = KEPT_FEET * SORTS * (MOST_SUM + 1);
-        private static final int ROUND_SHIFT = 32;
-        private static final long WAYS_MASK = 0xFFFFFFFFL;
+        /**
+         * With more feet left there are few beginnings of lines, and counting them again costs next to nothing.
+         * Up to here there are at most 10 * 10 * 10 * 10 ways, so that a lane holds them.
+         */
+        private static final int KEPT_FEET = 4;
+        private static final int LANE_BITS = 16;
+        private static final long LANE_MASK = 0xFFFF;
 
         final Vocables vocables;
         final Customs customs;
@@ -443,9 +446,11 @@ public final class VerseYears {
         final int[] oneSums = new int[MOST_VOCABLES];
         final int[] otherSums = new int[MOST_VOCABLES];
         final long[] byFeet = new long[(MOST_FEET + 1) * PLACES_OF_ORDER];
-        /** By far the largest row, so it is made only when lines are first asked for. */
-        long[] kept = new long[0];
-        long round;
+        /**
+         * For each sort and each sum left, a lane for each number of feet left: 0, or one more than the ways counted.
+         * By far the largest row: the lanes share a number, to keep what an object is made of small.
+         */
+        final long[] kept = new long[SORTS * (MOST_SUM + 1)];
         boolean isRoundOver = true;
         int roundCounting;
         int roundCustom;
@@ -487,9 +492,6 @@ public final class VerseYears {
         }
 
         private void beginRound(int counting, int custom) {
-            if (kept.length == 0) {
-                kept = new long[KEPT];
-            }
             if (!isRoundOver && counting == roundCounting && custom == roundCustom) {
                 return;
             }
@@ -497,7 +499,7 @@ public final class VerseYears {
             roundCounting = counting;
             roundCustom = custom;
             isRoundOver = false;
-            round++;
+            Arrays.fill(kept, 0);
         }
 
         /** Each level has fewer feet left, so it goes at most eight deep. */
@@ -506,16 +508,23 @@ public final class VerseYears {
                 return feet == 0 && rest == 0 ? 1 : 0;
             }
             int place = placeKept(behind, feet, rest);
-            boolean isKept = place >= 0 && place < kept.length;
-            if (isKept && kept[place] >>> ROUND_SHIFT == round) {
-                return kept[place] & WAYS_MASK;
+            if (place < 0 || place >= kept.length) {
+                return countWaysOn(behind, feet, rest);
             }
+            int lane = (feet - 1) * LANE_BITS;
+            long known = (kept[place] >>> lane) & LANE_MASK;
+            if (known > 0) {
+                return known - 1;
+            }
+            long ways = countWaysOn(behind, feet, rest);
+            kept[place] |= (ways + 1) << lane;
+            return ways;
+        }
+
+        private long countWaysOn(int behind, int feet, int rest) {
             long ways = 0;
             for (int k = 0; k < vocables.size; k++) {
                 ways += waysWith(k, behind, feet, rest);
-            }
-            if (isKept) {
-                kept[place] = round << ROUND_SHIFT | ways;
             }
             return ways;
         }
@@ -529,12 +538,12 @@ public final class VerseYears {
             return waysOn(vocables.sorts[vocable], feetLeft, restLeft);
         }
 
-        /** -1 for the beginning: it is counted once a call, and not worth a row. */
+        /** -1: not kept. The beginning is counted once a call, and not worth a row. */
         private static int placeKept(int behind, int feet, int rest) {
             if (behind >= SORTS || feet > KEPT_FEET) {
                 return -1;
             }
-            return ((feet - 1) * SORTS + behind) * (MOST_SUM + 1) + rest;
+            return behind * (MOST_SUM + 1) + rest;
         }
 
         /** Of the line with this number in the round that ofSum() began: there must be one. */
