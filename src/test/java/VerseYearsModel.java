@@ -4,7 +4,7 @@ import java.util.TreeSet;
 
 /** Runs of many calls, each answer held against a slow model that writes out every line and every reading as a text. */
 public final class VerseYearsModel {
-  private static final int RUNS = 600, CALLS = 400, MOST_WRITTEN_OUT = 6000;
+  private static final int RUNS = 600, CALLS = 512, MOST_WRITTEN_OUT = 6000;
   private static final int[] VALUES = {0, 1, 5, 10, 50, 100, 500, 1000};
   private static final int[] FAR = {Integer.MIN_VALUE, Integer.MAX_VALUE, -1, -2, 256, 1 << 16};
 
@@ -92,7 +92,7 @@ public final class VerseYearsModel {
       case 18: case 19: callReadings(); break;
       case 20: case 21: callYears(); break;
       case 22: callBorne(); break;
-      default: callCount(); due("trace", x.trace(), trace); break;
+      default: if (below(2) == 0) callCount(); else due("trace", x.trace(), trace); break;
     }
   }
 
