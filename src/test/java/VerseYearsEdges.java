@@ -725,6 +725,8 @@ public final class VerseYearsEdges {
       y.due(0, lines(feet, 3000, ALL, 0), lines(feet, 0, ALL, 0)).due(1 << feet, many(feet));
     }
 
+    leastAndGreatestSumByTurns();
+
     says("11: COUNTINGS 0 .. 2");
     new Book().list("XXx", 1, 0).due(1, lines(2, 60, 0, 0), lines(2, 40, 1, 0), lines(2, 20, 2, 0))
         .due(0, lines(2, 40, 0, 0), lines(2, 20, 1, 0), lines(2, 60, 2, 0));
@@ -738,6 +740,18 @@ public final class VerseYearsEdges {
 
     says("Terms: a blank between them, so each VOCABLE's own SUM, added");
     new Book().list("M", 1, 0).due(1, lines(2, 2000, ONCE, 0), lines(3, 3000, ONCE, 0)).due(0, lines(2, 1000, ONCE, 0));
+  }
+
+  /** What is kept of one SUM's counts must not be taken for another's, at either end of 0 .. 3000. */
+  private static void leastAndGreatestSumByTurns() {
+    says("11: a SUM y (0 .. 3000), the least and the greatest by turns");
+    for (int sorts = 0; sorts < 27; sorts++) {
+      Book x = new Book().list("a", 1, sorts % 3).list("i", 1, sorts / 3 % 3).list("mmm", 1, sorts / 9);
+      for (int feet = 1; feet <= 8; feet++) {
+        x.due(1, lines(feet, 0, ALL, 0)).due(feet, lines(feet, 3000, ALL, 0)).due(feet, lines(feet, 1, ALL, 0));
+        x.due(0, lines(feet, 2999, ALL, 0)).due(feet, lines(feet, 3000, ALL, 0)).due(1, lines(feet, 0, ALL, 0));
+      }
+    }
   }
 
   // ---- promise 12
