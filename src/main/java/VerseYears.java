@@ -361,15 +361,16 @@ public final class VerseYears {
             return marks;
         }
 
+        /** A blank stands between two parts, so a full draft has no more of them than the rows hold. */
         private void findParts() {
             parts = 0;
             int ahead = ' ';
             for (int k = 0; k < length; k++) {
-                if (bytes[k] != ' ') {
-                    if (ahead == ' ') {
-                        starts[parts] = k;
-                        parts++;
-                    }
+                if (bytes[k] != ' ' && ahead == ' ' && parts < MOST_PARTS) {
+                    starts[parts] = k;
+                    parts++;
+                }
+                if (bytes[k] != ' ' && parts > 0) {
                     ends[parts - 1] = k + 1;
                 }
                 ahead = bytes[k];
